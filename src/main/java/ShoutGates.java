@@ -1022,7 +1022,7 @@ public final class ShoutGates {
         final int[] strength = new int[GATES];
         int sureness = 0;
         int quietTime = 0;
-        char letter = 0;
+        int letter = 0;
         int visitor = 0;
         int book = 0;
         int gate = 0;
