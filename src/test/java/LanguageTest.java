@@ -139,7 +139,7 @@ public final class LanguageTest {
                 x.append(c);
             }
             long before = bean.getThreadAllocatedBytes(Thread.currentThread().getId());
-            for (int i = 0; i < 30; i++) {
+            for (int i = 0; i < 24; i++) {
                 everyCall(x, i);
             }
             long made = bean.getThreadAllocatedBytes(Thread.currentThread().getId()) - before;
