@@ -606,10 +606,6 @@ public final class ShoutGates {
         final int[] lastTick = new int[KEPT_SHOUTS];
         int quietTime;
 
-        Gates() {
-            clear();
-        }
-
         void clear() {
             for (int g = 0; g < GATES; g++) {
                 strength[g] = FIRST_STRENGTH;

@@ -125,6 +125,15 @@ public final class LookBoundsTest extends Checks {
         due("21 shouts", () -> x.about(1), 21);
         due("the last was the last of the row", () -> x.shout(0, 1), 19);
         due("a tick for each", () -> x.shout(9, 1), 10);
+        for (int g = 0; g < 3; g++) {
+            int gate = g;
+            String strengths = "000000".substring(0, 2 * g) + "06" + "000000".substring(2 * g + 2);
+            ShoutGates two = loaded("L" + strengths + "19t000t001o0" + g + "n1");
+            due("one waits at gate " + gate + " alone", () -> two.about(2), 1);
+            due("one waits at gate " + gate, () -> two.gate(gate, 2), 1);
+            due("one shout by gate " + gate + " alone", () -> two.about(1), 1);
+        }
+        due("they wait at all gates", () -> loaded("L06060619t000t001t102t103t204t205o00o11o22n1").about(2), 3);
     }
 
     // ---- promise 7

@@ -198,6 +198,12 @@ public final class TextBoundsTest extends Checks {
         due("load empties slot 1", () -> x.restore(1), STATE);
         due("load makes all new", state(x), state(new ShoutGates()));
         due("load keeps the text", text(x), "-9 of 9");
+        ShoutGates slipped = loaded("L00000010t000o00n7");
+        due("one slipped out before load", () -> slipped.about(4), 1);
+        slipped.clearText();
+        write(slipped, HEAD);
+        slipped.load();
+        due("load forgets what slipped out", state(slipped), state(new ShoutGates()));
         ShoutGates again = busy();
         again.load();
         String loaded = state(again);

@@ -8,6 +8,7 @@ public final class TickBoundsTest extends Checks {
         eachTime();
         borrowedOnesNeither();
         forgottenInside();
+        keptOfTheOthers();
         forgottenBeforeTheShout();
         keptOutside();
         readsUpToTheSureness();
@@ -187,6 +188,18 @@ public final class TickBoundsTest extends Checks {
         due("one waits at gate 0", () -> rows.gate(0, 2), 1);
         due("the one that was behind", () -> rows.gate(0, 3), 3);
         due("none waits at gate 2", () -> rows.gate(2, 3), NONE);
+    }
+
+    private static void keptOfTheOthers() {
+        ShoutGates x = loaded("L05000030t000t101o00n1r0o10n2");
+        due("whose visitor is inside, it has no read", () -> x.book(0, 2), 0);
+        due("the other visitor's book has its reads", () -> x.book(1, 2), 2);
+        ShoutGates told = loaded("L05000020t000t101o10n2o00n1r0n2");
+        due("whose visitor came inside, it has no read", () -> told.book(0, 2), 0);
+        due("the other one has been told", () -> told.book(1, 3), 1);
+        due("the other one has its reads", () -> told.book(1, 2), 2);
+        told.ticks(2);
+        due("the other one is caught", () -> told.about(3), 1);
     }
 
     private static void forgottenBeforeTheShout() {
